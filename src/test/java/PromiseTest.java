@@ -57,6 +57,7 @@ public final class PromiseTest {
         check();
         keepAndBack();
         count();
+        allFull();
         d.end();
     }
 
@@ -1033,9 +1034,12 @@ public final class PromiseTest {
         String[] faults = {"fee ((((((((", "fee !!!!!!!!", "fee 1<2<", "fee 1+(2*", "fee (1<2", "12", "fee 1+!"};
         for (int i = 0; i < faults.length; i++) {
             d.due("'" + faults[i] + "'", Due.text(x, faults[i]) <= -100 ? 1 : 0, 1);
-            d.due("text", Due.text(x, "fee !(1<2)+7"), i);
-            d.due("fee()", x.fee(), 7);
-            d.due("numbers and names", x.textTold(i, 1), 3);
+            d.due("text", Due.text(x, i % 2 == 0 ? "fee 0<2" : "fee !(1<2)+1"), 2 * i);
+            d.due("fee()", x.fee(), 1);
+            d.due("numbers and names", x.textTold(2 * i, 1), i % 2 == 0 ? 2 : 3);
+            d.due("'" + faults[i] + "'", Due.text(x, faults[i]) <= -100 ? 1 : 0, 1);
+            d.due("text", Due.text(x, i % 2 == 1 ? "fee 0<2" : "fee !(1<2)+1"), 2 * i + 1);
+            d.due("fee()", x.fee(), 1);
         }
     }
 
@@ -1512,6 +1516,42 @@ public final class PromiseTest {
         d.due("read(0)", x.read(0), NONE);
         d.due("weeks(1)", x.weeks(1), 1);
         d.due("came", x.told(0, 4), 1);
+    }
+
+    /** Where every row is at its end, and nothing is found in any of them. */
+    private static void allFull() {
+        LogLetters x = fresh("all rows are full");
+        for (int i = 0; i < 14; i++) {
+            x.log(5, 1, 1);
+            x.word(2);
+            Due.text(x, "fee 1");
+        }
+        x.lays(11, 13);
+        x.keep();
+        for (int i = 0; i < 60; i++) {
+            x.tell(i % 2 == 0 ? 0 : 13);
+        }
+        x.tell(7);
+        d.due("check(30)", x.check(30), 0);
+        for (int k = 0; k < 12; k++) {
+            d.due("read(" + k + ")", x.read(k), NONE);
+        }
+        d.due("spelt", x.river(0), 0);
+        d.due("jam", x.river(1), 11);
+        d.due("on the river", x.river(4), 2047);
+        d.due("whole()", x.whole(), NONE);
+        d.due("frees(40, 0)", x.frees(40, 0), 0);
+        d.due("lost(40)", x.lost(40), 2047);
+        d.due("wider(40, 0)", x.wider(40, 0), 0);
+        d.due("opened(60)", x.opened(60), 0);
+        d.due("rolled(11, 40)", x.rolled(11, 40), NONE);
+        d.due("why(0)", x.why(0), NONE);
+        d.due("textTold(13, 1)", x.textTold(13, 1), 1);
+        d.due("textTold(14, 1)", x.textTold(14, 1), BAD);
+        x.sheet(3, 0, 24);
+        d.due("looked(3, 11, 1)", x.looked(3, 11, 1), 24 * 13);
+        d.due("reads(3)", x.reads(3), 11);
+        d.due("copy(3, 0, 3, 0, 24)", x.copy(3, 0, 3, 0, 24), 24);
     }
 
     private static void count() {
