@@ -329,8 +329,8 @@ public final class LogLetters {
             return NOTHING;
         }
         int best = 1;
-        int least = Integer.MAX_VALUE;
-        for (int mass = 1; mass <= 46; mass += 5) {
+        int least = apartWithMass(sheets[sheet], log, best);
+        for (int mass = 6; mass <= 46; mass += 5) {
             int apart = apartWithMass(sheets[sheet], log, mass);
             if (apart < least) {
                 best = mass;
@@ -1288,7 +1288,7 @@ public final class LogLetters {
 
         /** Behind a piece that is whole: each ! right ahead of it has what it turns round. */
         void closeBangs() {
-            while (openSize > 0 && topSign() == '!') {
+            for (int i = openSize; i > 0 && topSign() == '!'; i--) {
                 addCode(SIGNS_FROM + pop());
                 bangs--;
             }
@@ -1296,7 +1296,7 @@ public final class LogLetters {
 
         /** Signs that bind at least so tight have their right side; a bracket ends the row. */
         void closeDownTo(int level) {
-            while (openSize > 0 && levelOf(topSign()) >= level) {
+            for (int i = openSize; i > 0 && levelOf(topSign()) >= level; i--) {
                 addCode(SIGNS_FROM + pop());
             }
         }

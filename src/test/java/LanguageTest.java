@@ -74,7 +74,7 @@ public final class LanguageTest {
         d.about("rules 3 to 6, 10 and 13");
         String[] none = {"\\bthrow\\b", "\\bthrows\\b", "\\btry\\b", "\\bcatch\\b", "\\bsynchronized\\b", "\\bassert\\b", "->", "::",
             "\\bimport\\b", "\\bpackage\\b", "\\bprotected\\b", "\\bhashCode\\b", "\\btoString\\b", "\\bfinalize\\b", "\\bnative\\b",
-            "\\bstatic \\{", "\\w+Exact\\b", "\\bMath\\.random\\b", "\\bThread\\b", "\\bSystem\\.(?!arraycopy)", "\\bdouble\\b", "\\bfloat\\b",
+            "\\bstatic \\{", "\\w+Exact\\b", "\\b(Integer|Long|Math)\\.[A-Z]", "\\bMath\\.random\\b", "\\bThread\\b", "\\bSystem\\.(?!arraycopy)", "\\bdouble\\b", "\\bfloat\\b",
             "TEXT \\+", "\\+ TEXT", "\\bvar\\b", "\\bwhile \\(true\\)", "\\bfor \\(;;\\)", "\\[\\]\\[\\]\\[\\]"};
         for (String pattern : none) {
             Matcher m = Pattern.compile(pattern).matcher(bare);
