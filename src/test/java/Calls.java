@@ -2,6 +2,7 @@ import java.lang.reflect.Method;
 import java.lang.reflect.Modifier;
 import java.util.Arrays;
 import java.util.Map;
+import java.util.Set;
 import java.util.TreeMap;
 
 /** Calls by their names, so that tests can hold them in rows and print them as they were. */
@@ -17,6 +18,10 @@ final class Calls {
     }
 
     private Calls() { }
+
+    static Set<String> names() {
+        return METHODS.keySet();
+    }
 
     static int call(LogLetters x, String name, int... args) {
         try {
