@@ -6,9 +6,9 @@ import java.util.Set;
 
 /**
  * The grammar as the document writes it, in rows: a row of words and signs is a TEXT if the grammar makes it,
- * and its FAULT is the first one behind which the grammar makes nothing any more. Every row of up to five words
- * and signs behind a KEY is held against that, and longer ones by lot; what a TEXT gives is worked out by
- * parting it at its loosest sign.
+ * and its FAULT is the first one behind which the grammar makes nothing any more. Every row of up to five of ten
+ * words and signs (one or two of each level) behind a KEY is held against that, and longer ones by lot, with all
+ * signs; what a TEXT gives is worked out by parting it at its loosest sign.
  */
 public final class GrammarTest {
     private static final String[][] RULES = {
@@ -35,16 +35,19 @@ public final class GrammarTest {
     }
 
     public static void main(String[] args) {
-        d.about("terms 4: every row of up to five words and signs");
+        d.about("terms 4: every row of up to five of ten words and signs");
         go(new ArrayList<>(), new ArrayList<>(List.of(begin())), 5);
         d.about("terms 4: long rows by lot");
         Random lot = new Random(12);
-        for (int i = 0; i < 4000; i++) {
+        int held = 0;
+        for (int i = 0; i < 6000; i++) {
             List<String> row = new ArrayList<>();
             make("OR", row, lot, 0);
             spoil(row, lot);
-            hold(row, lot.nextInt(3) == 0 ? "" : " ");
+            held += hold(row, lot.nextInt(3) == 0 ? "" : " ") ? 1 : 0;
         }
+        System.out.println(held + " long rows");
+        d.due("rows that fit on the tape", held > 4000 ? 1 : 0, 1);
         d.end();
     }
 
@@ -63,12 +66,12 @@ public final class GrammarTest {
         }
     }
 
-    private static void hold(List<String> row, String between) {
+    private static boolean hold(List<String> row, String between) {
         List<Set<Item>> sets = new ArrayList<>(List.of(begin()));
         for (String s : row) {
             sets.add(behind(sets, s));
         }
-        tell(row, between, sets);
+        return tell(row, between, sets);
     }
 
     private static Set<Item> begin() {
@@ -125,7 +128,8 @@ public final class GrammarTest {
         return false;
     }
 
-    private static void tell(List<String> row, String between, List<Set<Item>> sets) {
+    /** Whether it could be held against the grammar: not, if it is too long or too deep. */
+    private static boolean tell(List<String> row, String between, List<Set<Item>> sets) {
         StringBuilder text = new StringBuilder("fine ");
         int fault = -1;
         int pieces = 0;
@@ -139,12 +143,13 @@ public final class GrammarTest {
             pieces += isWord(row.get(i)) ? 1 : 0;
         }
         if (text.length() > 96 || isTooDeep(row)) {
-            return;
+            return false;
         }
         if (fault < 0 && !isWhole(sets.get(row.size()))) {
             fault = text.length();
         }
         ask(text.toString(), row, fault, pieces);
+        return true;
     }
 
     private static void ask(String text, List<String> row, int fault, int pieces) {
